@@ -799,6 +799,14 @@ public final class FanParts {
             return false;
         }
 
+        int letterBits() {
+            int bits = 0;
+            for (int i = 0; i < length; i++) {
+                bits |= 1 << letters[i];
+            }
+            return bits;
+        }
+
         boolean sameLetters(Saying other) {
             return length == other.length && standsIn(other, 0);
         }
@@ -1529,6 +1537,8 @@ public final class FanParts {
         private int count;
         private final int[] needed = new int[MOST_CELLS];
         private final int[] neededBy = new int[MOST_CELLS];
+        // What the wishes from one on cost at least, beyond what is shared with those ahead of it.
+        private final int[] restLeast = new int[MOST_WISHES + 1];
         private int fewest;
 
         Mender() {
@@ -1543,6 +1553,7 @@ public final class FanParts {
             int sum = 0;
             for (int side = FRONT; side <= BACK; side++) {
                 gather(fan, painting, side);
+                boundRests();
                 fewest = UNREACHED;
                 tryPlaces(0, 0);
                 if (fewest == UNREACHED) {
@@ -1569,12 +1580,40 @@ public final class FanParts {
             }
         }
 
-        private void tryPlaces(int depth, int spent) {
-            if (spent >= fewest) {
-                return;
+        private void boundRests() {
+            restLeast[count] = 0;
+            for (int i = count - 1; i >= 0; i--) {
+                restLeast[i] = restLeast[i + 1] + leastUnshared(i);
             }
+        }
+
+        // Letters that no wish ahead has can't be shared with one, so CELLS painted for them come on top.
+        private int leastUnshared(int depth) {
+            int ahead = 0;
+            for (int i = 0; i < depth; i++) {
+                ahead |= wishes[i].letterBits();
+            }
+            int least = MOST_LETTERS;
+            for (int place = 0; place + wishes[depth].length <= rows[depth].length; place++) {
+                least = Math.min(least, countUnshared(depth, place, ahead));
+            }
+            return least;
+        }
+
+        private int countUnshared(int depth, int place, int ahead) {
+            int unshared = 0;
+            for (int i = 0; i < wishes[depth].length; i++) {
+                int letter = wishes[depth].letters[i];
+                if ((ahead >> letter & 1) == 0 && rows[depth].letters[place + i] != letter) {
+                    unshared++;
+                }
+            }
+            return unshared;
+        }
+
+        private void tryPlaces(int depth, int spent) {
             if (depth >= count || depth >= MOST_WISHES) {
-                fewest = spent;
+                fewest = Math.min(fewest, spent);
                 return;
             }
             if (wishes[depth].hasBare()) {
@@ -1583,7 +1622,7 @@ public final class FanParts {
             int last = rows[depth].length - wishes[depth].length;
             for (int place = 0; place <= last; place++) {
                 int more = claim(depth, place);
-                if (more != CONTRARY) {
+                if (more != CONTRARY && spent + more + restLeast[depth + 1] < fewest) {
                     tryPlaces(depth + 1, spent + more);
                 }
                 release(depth, place);
