@@ -925,10 +925,6 @@ public final class FanParts {
         int brokenBits;
         int now;
 
-        Painting() {
-            wipe();
-        }
-
         void wipe() {
             for (int i = 0; i < letters.length; i++) {
                 letters[i] = BARE;
@@ -1151,10 +1147,6 @@ public final class FanParts {
                 kind = length <= MOST_DIGITS ? WHOLE : NO_TOKEN;
                 return;
             }
-            takeSign();
-        }
-
-        private void takeSign() {
             if (start >= end) {
                 kind = END;
                 return;

@@ -365,6 +365,12 @@ public final class PromisesTest {
         Check.answered(x, "mend, as many as show", x.mend(0), 2);
         x = fan("fan ribs 2 wide 1 price 1 opens even;rib b b;rib b b;wish a front 1");
         Check.answered(x, "mendAt of like ones", x.mendAt(0), 0);
+        x = fan("fan ribs 3 wide 3 price 1 opens even;wish abcdefgh front 3;wish hgfedcba back 3;wish abc back 0");
+        Check.answered(x, "mend of all letters", x.mend(0), 8);
+        Check.answered(x, "mendAt of all letters", x.mendAt(0), 0);
+        Check.answered(x, "mendAll of all letters", x.mendAll(), -2);
+        x.breaks(0, true);
+        Check.answered(x, "mend, all letters, too few show", x.mend(0), -2);
     }
 
     private static void mendsOfAll() {

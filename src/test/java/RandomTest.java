@@ -44,7 +44,7 @@ public final class RandomTest {
     private String letters(int least, int most) {
         StringBuilder word = new StringBuilder();
         int length = least + upTo(most - least);
-        String signs = random.nextInt(3) == 0 ? "abcz" : "ab";
+        String signs = List.of("ab", "ab", "ab", "abcz", "aabc", "cdefghy").get(random.nextInt(6));
         for (int i = 0; i < length; i++) {
             word.append(random.nextInt(60) == 0 ? 'z' : signs.charAt(random.nextInt(signs.length())));
         }
