@@ -397,6 +397,9 @@ public final class PromisesTest {
         Check.answered(x, "all are kept", x.mendAll(), 0);
         x.breaks(0, true);
         Check.answered(x, "not with a broken one", x.mendAll(), -2);
+        // A dearer way is met first; the one that costs nothing comes behind it.
+        x = fan("fan ribs 3 wide 1 price 1 opens left;rib c z;rib b z;rib a z;wish b front 2;wish a front 0");
+        Check.answered(x, "the cheapest comes last", x.mendAll(), 0);
     }
 
     private static void losses() {
