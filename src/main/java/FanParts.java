@@ -799,14 +799,6 @@ public final class FanParts {
             return false;
         }
 
-        int letterBits() {
-            int bits = 0;
-            for (int i = 0; i < length; i++) {
-                bits |= 1 << letters[i];
-            }
-            return bits;
-        }
-
         boolean sameLetters(Saying other) {
             return length == other.length && standsIn(other, 0);
         }
@@ -1518,7 +1510,7 @@ public final class FanParts {
         }
     }
 
-    /** Finds MEND of all: tries every PLACE for every wish, as long as that may still become the fewest. */
+    /** Finds MEND of all: tries the PLACES of every wish, as long as that may still become the fewest. */
     private static final class Mender {
         private static final int FREE = -1;
         private static final int CONTRARY = -1;
@@ -1529,8 +1521,10 @@ public final class FanParts {
         private int count;
         private final int[] needed = new int[MOST_CELLS];
         private final int[] neededBy = new int[MOST_CELLS];
-        // What the wishes from one on cost at least, beyond what is shared with those ahead of it.
-        private final int[] restLeast = new int[MOST_WISHES + 1];
+        // What a wish costs from each PLACE, beside those that have theirs already.
+        private final int[] costs = new int[MOST_WISHES * MOST_CELLS];
+        // How much two wishes can save together at most, by CELLS that both need.
+        private final int[] savings = new int[MOST_WISHES * MOST_WISHES];
         private int fewest;
 
         Mender() {
@@ -1545,7 +1539,10 @@ public final class FanParts {
             int sum = 0;
             for (int side = FRONT; side <= BACK; side++) {
                 gather(fan, painting, side);
-                boundRests();
+                if (lacksPlace()) {
+                    return LACKING;
+                }
+                compareWishes();
                 fewest = UNREACHED;
                 tryPlaces(0, 0);
                 if (fewest == UNREACHED) {
@@ -1556,14 +1553,17 @@ public final class FanParts {
             return sum;
         }
 
+        // The longest come first: short ones behind them often cost nothing, which ends the search soon.
         private void gather(Fan fan, Painting painting, int side) {
             count = 0;
-            for (int i = 0; i < fan.wishCount; i++) {
-                Saying wish = fan.wishes[i];
-                if (wish.side == side) {
-                    wishes[count] = wish;
-                    rows[count].look(fan, painting, painting.brokenBits, side, wish.opening);
-                    count++;
+            for (int length = MOST_LETTERS; length > 0; length--) {
+                for (int i = 0; i < fan.wishCount; i++) {
+                    Saying wish = fan.wishes[i];
+                    if (wish.side == side && wish.length == length) {
+                        wishes[count] = wish;
+                        rows[count].look(fan, painting, painting.brokenBits, side, wish.opening);
+                        count++;
+                    }
                 }
             }
             for (int i = 0; i < needed.length; i++) {
@@ -1572,77 +1572,118 @@ public final class FanParts {
             }
         }
 
-        private void boundRests() {
-            restLeast[count] = 0;
-            for (int i = count - 1; i >= 0; i--) {
-                restLeast[i] = restLeast[i + 1] + leastUnshared(i);
-            }
-        }
-
-        // Letters that no wish ahead has can't be shared with one, so CELLS painted for them come on top.
-        private int leastUnshared(int depth) {
-            int ahead = 0;
-            for (int i = 0; i < depth; i++) {
-                ahead |= wishes[i].letterBits();
-            }
-            int least = MOST_LETTERS;
-            for (int place = 0; place + wishes[depth].length <= rows[depth].length; place++) {
-                least = Math.min(least, countUnshared(depth, place, ahead));
-            }
-            return least;
-        }
-
-        private int countUnshared(int depth, int place, int ahead) {
-            int unshared = 0;
-            for (int i = 0; i < wishes[depth].length; i++) {
-                int letter = wishes[depth].letters[i];
-                if ((ahead >> letter & 1) == 0 && rows[depth].letters[place + i] != letter) {
-                    unshared++;
+        private boolean lacksPlace() {
+            for (int i = 0; i < count; i++) {
+                if (wishes[i].hasBare() || lastPlace(i) < 0) {
+                    return true;
                 }
             }
-            return unshared;
+            return false;
         }
 
+        private int lastPlace(int wish) {
+            return rows[wish].length - wishes[wish].length;
+        }
+
+        private void compareWishes() {
+            for (int i = 0; i < count; i++) {
+                for (int j = i + 1; j < count; j++) {
+                    savings[i * MOST_WISHES + j] = mostSaved(i, j);
+                }
+            }
+        }
+
+        private int mostSaved(int one, int other) {
+            int most = 0;
+            for (int place = 0; place <= lastPlace(one); place++) {
+                claim(one, place);
+                for (int at = 0; at <= lastPlace(other); at++) {
+                    int more = costFrom(other, at);
+                    if (more != CONTRARY) {
+                        most = Math.max(most, rows[other].strangeAt(wishes[other], at) - more);
+                    }
+                }
+                release(one, place);
+            }
+            return most;
+        }
+
+        // The cheapest PLACES come first, so that all from the first too dear one on can be left out.
         private void tryPlaces(int depth, int spent) {
             if (depth >= count || depth >= MOST_WISHES) {
                 fewest = Math.min(fewest, spent);
                 return;
             }
-            if (wishes[depth].hasBare()) {
-                return;
+            int least = spent;
+            for (int wish = depth + 1; wish < count; wish++) {
+                least += leastBeside(depth, wish);
             }
-            int last = rows[depth].length - wishes[depth].length;
-            for (int place = 0; place <= last; place++) {
-                int more = claim(depth, place);
-                if (more != CONTRARY && spent + more + restLeast[depth + 1] < fewest) {
-                    tryPlaces(depth + 1, spent + more);
+            weighPlaces(depth);
+            for (int more = 0; more <= MOST_LETTERS && least + more < fewest; more++) {
+                for (int place = 0; place <= lastPlace(depth) && least + more < fewest; place++) {
+                    if (costs[depth * MOST_CELLS + place] == more) {
+                        claim(depth, place);
+                        tryPlaces(depth + 1, spent + more);
+                        release(depth, place);
+                    }
                 }
-                release(depth, place);
             }
         }
 
+        // What a wish costs at least, whatever PLACES those from a depth on ahead of it come to.
+        private int leastBeside(int depth, int wish) {
+            int least = weighPlaces(wish);
+            if (least == UNREACHED) {
+                return UNREACHED;
+            }
+            for (int i = depth; i < wish; i++) {
+                least -= savings[i * MOST_WISHES + wish];
+            }
+            return Math.max(0, least);
+        }
+
+        private int weighPlaces(int wish) {
+            int least = UNREACHED;
+            for (int place = 0; place <= lastPlace(wish); place++) {
+                int more = costFrom(wish, place);
+                costs[wish * MOST_CELLS + place] = more;
+                if (more != CONTRARY) {
+                    least = Math.min(least, more);
+                }
+            }
+            return least;
+        }
+
         // How many CELLS more are to be painted anew if a wish is READ from a PLACE.
-        private int claim(int depth, int place) {
-            Row row = rows[depth];
-            Saying wish = wishes[depth];
+        private int costFrom(int wish, int place) {
+            Row row = rows[wish];
+            int[] letters = wishes[wish].letters;
             int more = 0;
-            for (int i = 0; i < wish.length; i++) {
-                int cell = row.cells[place + i];
-                if (needed[cell] == FREE) {
-                    needed[cell] = wish.letters[i];
-                    neededBy[cell] = depth;
-                    more += row.letters[place + i] == wish.letters[i] ? 0 : 1;
-                } else if (needed[cell] != wish.letters[i]) {
+            for (int i = 0; i < wishes[wish].length; i++) {
+                int need = needed[row.cells[place + i]];
+                if (need == FREE) {
+                    more += row.letters[place + i] == letters[i] ? 0 : 1;
+                } else if (need != letters[i]) {
                     return CONTRARY;
                 }
             }
             return more;
         }
 
-        private void release(int depth, int place) {
-            for (int i = 0; i < wishes[depth].length; i++) {
-                int cell = rows[depth].cells[place + i];
-                if (neededBy[cell] == depth) {
+        private void claim(int wish, int place) {
+            for (int i = 0; i < wishes[wish].length; i++) {
+                int cell = rows[wish].cells[place + i];
+                if (needed[cell] == FREE) {
+                    needed[cell] = wishes[wish].letters[i];
+                    neededBy[cell] = wish;
+                }
+            }
+        }
+
+        private void release(int wish, int place) {
+            for (int i = 0; i < wishes[wish].length; i++) {
+                int cell = rows[wish].cells[place + i];
+                if (neededBy[cell] == wish) {
                     needed[cell] = FREE;
                     neededBy[cell] = FREE;
                 }
