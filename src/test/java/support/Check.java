@@ -4,8 +4,14 @@ import java.util.NoSuchElementException;
 final class Check {
     private static int wrong = 0;
     private static int asked = 0;
+    private static String about = "";
 
     private Check() {
+    }
+
+    /** What the answers from here on are looked at for. */
+    static void about(String what) {
+        about = what.isEmpty() ? "" : what + ": ";
     }
 
     static void same(String what, long got, long want) {
@@ -13,7 +19,7 @@ final class Check {
         if (got != want) {
             wrong++;
             if (wrong <= 40) {
-                System.out.println(what + " answered " + got + ", due is " + want);
+                System.out.println(about + what + " answered " + got + ", due is " + want);
             }
         }
     }
