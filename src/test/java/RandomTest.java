@@ -262,7 +262,7 @@ public final class RandomTest {
             case 4 -> same("mend " + h, x.mend(h), y.mend(h));
             case 5 -> same("mendAt " + h, x.mendAt(h), y.mendAt(h));
             case 6 -> {
-                if (y.ways() < 300) {
+                if (y.ways() < 2000) {
                     same("mendAll", x.mendAll(), y.mendAll());
                 }
             }

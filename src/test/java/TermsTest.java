@@ -187,6 +187,35 @@ public final class TermsTest {
         for (int what = 3; what <= 6; what++) {
             Check.same("size(" + what + ")", x.size(what), 0);
         }
+        nothingIsLeft();
+    }
+
+    /** Behind FANS that tell all there can be, and behind ones with a FAULT, a FAN tells what its own text does. */
+    private static void nothingIsLeft() {
+        String full = "fan ribs 2 wide 2 price 9 opens left;rib ab cd broken;rib ef gh broken;word a;word ab;wish a front 0;"
+            + "seen front 2 from 0 ab;seen front 2 from 0 cd;beat 0,1";
+        FanParts x = fan(full);
+        Check.same("a clash", x.clash(), 1);
+        Check.same("packed", x.pack(1), 3);
+        x.open(1);
+        for (int i = 0; i < 3; i++) {
+            Check.answered(x, "full", Check.fanOf(x, full), 3);
+            x.open(2);
+            x.pack(0);
+            Check.refused(x, "full, with a FAULT", Check.fanOf(x, full + ";beat 0"), 4);
+            Check.answered(x, "bare", Check.fanOf(x, "fan ribs 2 wide 2 price 1 opens even"), 3);
+            int[] sizes = {2, 2, 0, 0, 0, 0, 0, 0, 0, 0, 0};
+            for (int what = 0; what < sizes.length; what++) {
+                Check.same("bare: size(" + what + ")", x.size(what), sizes[what]);
+            }
+            Check.same("bare: painted", x.painted(), 0);
+            Check.same("bare: broken", x.broken(0) + x.broken(1), 0);
+            Check.same("bare: clash", x.clash(), -2);
+            Check.same("bare: sureCells", x.sureCells(), 0);
+            Check.same("bare: pack", x.pack(0) + x.pack(1) + x.pack(2), 0);
+            Check.answered(x, "other words", Check.fanOf(x, "fan ribs 2 wide 2 price 1 opens even;word b;word cd"), 3);
+            Check.same("other words: pack", x.pack(2), 3);
+        }
     }
 
     private static void wordAndWishLines() {
@@ -296,6 +325,20 @@ public final class TermsTest {
         Check.faulty("f", 1, 0);
         Check.faulty("7", 1, 0);
         Check.faulty(",", 1, 0);
+        // A name that differs in one letter is none.
+        String all = FAN + ";rib a b broken;word a;wish a front 0;seen back 0 from 0 a;beat 0";
+        openingsOf(all, 2);
+        for (int i = 0; i < all.length(); i++) {
+            int from = all.lastIndexOf(' ', i) + 1;
+            from = Math.max(from, all.lastIndexOf(';', i) + 1);
+            int to = i;
+            while (to < all.length() && Character.isLetter(all.charAt(to))) {
+                to++;
+            }
+            if (to > i && to - from > 1) {
+                Check.faulty(all.substring(0, i) + "q" + all.substring(i + 1), 1, from);
+            }
+        }
         // Cut off behind each TOKEN: the end, behind blanks too.
         int[] ends = {3, 8, 10, 15, 17, 23, 25, 31};
         for (int end : ends) {
@@ -317,6 +360,23 @@ public final class TermsTest {
         Check.refused(x, "fan(31)", x.fan(31), 4);
         Check.same("fault()", x.fault(), 1);
         Check.same("where()", x.where(), 31);
+        // What stands on the tape behind them isn't read: a WORD, a WHOLE and a LINE that are cut.
+        String wholes = "fan ribs 10 wide 11 price 999 opens even;word abcdefghij";
+        int[][] places = {{10, 4, 9}, {18, 1, 18}, {19, 4, 17}};
+        for (int[] place : places) {
+            Check.feedText(x, wholes);
+            Check.refused(x, "fan(" + place[0] + ")", x.fan(place[0]), 4);
+            Check.same("fault() of " + place[0], x.fault(), place[1]);
+            Check.same("where() of " + place[0], x.where(), place[2]);
+        }
+        Check.feedText(x, FAN + ";beat 1111;word abcdefghij");
+        Check.answered(x, "a WHOLE that is cut", x.fan(FAN.length() + 7), 2);
+        Check.same("beats", x.size(6), 1);
+        Check.feedText(x, FAN + ";word abcdefghij");
+        Check.answered(x, "a WORD that is cut", x.fan(FAN.length() + 14), 2);
+        Check.same("words", x.size(3), 1);
+        Check.feedText(x, FAN + ";beat 1;beat 1");
+        Check.answered(x, "a LINE that is cut", x.fan(FAN.length() + 7), 2);
     }
 
     private static void faultsAgainAndBounds() {
@@ -576,8 +636,28 @@ public final class TermsTest {
         // A rib that is dear for one wish is cheap for both.
         x = fan("fan ribs 4 wide 1 price 1 opens even;rib a z;rib z z;rib z z;rib z z;wish abc front 1;wish bcd front 1");
         Check.answered(x, "overlapping", x.mendAll(), 3);
+        // The cheapest PLACES of the first wish aren't those of the cheapest way.
+        mendAll("b a z", 2, "cb", "bc");
+        mendAll("b a a", 1, "d", "d", "b");
+        mendAll("b b b", 1, "ab", "ba");
+        mendAll("a a b b b", 3, "bcd", "dbb");
+        mendAll("b a c b", 1, "aa", "ab");
         x = fan("fan ribs 10 wide 3 price 1 opens left;wish abcdefgh front 27;wish abcdefgh back 27;wish hgfedcba front 27;wish ba back 0");
         Check.answered(x, "the longest wishes", x.mendAll(), 8 + 7 + 8 + 2);
+    }
+
+    /** Wishes on a front of CELLS of one letter each. */
+    private static void mendAll(String front, int due, String... wishes) {
+        String[] cells = front.split(" ");
+        StringBuilder text = new StringBuilder("fan ribs " + cells.length + " wide 1 price 1 opens even");
+        for (String cell : cells) {
+            text.append(";rib ").append(cell).append(" z");
+        }
+        for (String wish : wishes) {
+            text.append(";wish ").append(wish).append(" front 1");
+        }
+        FanParts x = fan(text.toString());
+        Check.answered(x, "mendAll() of " + text, x.mendAll(), due);
     }
 
     private static void losesAndTreaty() {
@@ -702,6 +782,11 @@ public final class TermsTest {
         Check.answered(blind, "nothing seen", blind.fits(), 1);
         x = fan(FAN + ";rib a b;seen front 1 from 0 a;seen front 1 from 0 c");
         Check.answered(x, "a clash never fits", x.fits(), 0);
+        String six = ";seen front 1 from 0 a".repeat(5);
+        x = fan(FAN + ";rib a b" + six + ";seen front 1 from 0 az");
+        Check.answered(x, "all six fit", x.fits(), 1);
+        x.paint(0, 1, 0, 4);
+        Check.answered(x, "the sixth doesn't", x.fits(), 0);
 
         quote("ASK: the SIDE and OPENING at which most CELLS show (of a whole fan, too) that aren't SURE;"
             + " of like ones the front, the least OPENING.");
@@ -767,6 +852,13 @@ public final class TermsTest {
         for (int i = 0; i < due.length; i++) {
             Check.answered(x, "calmAt " + i + ", of like ones", x.calmAt(i), due[i]);
         }
+        // From one OPENING to another as many smear as they are apart, and the three CELLS of the last rib.
+        x = fan("fan ribs 10 wide 3 price 1 opens left" + ";rib abc zzz".repeat(9) + ";rib xyw zzz;beat 27,0,22,5,16,10");
+        Check.answered(x, "a great SMEAR", x.calm(), 27 + 5 * 3);
+        due = new int[] {0, 2, 4, 5, 3, 1};
+        for (int i = 0; i < due.length; i++) {
+            Check.answered(x, "calmAt " + i + ", of six", x.calmAt(i), due[i]);
+        }
         x = fan(LEFT + ";beat 2");
         Check.answered(x, "calm of one", x.calm(), 0);
         Check.answered(x, "calmAt of one", x.calmAt(0), 0);
@@ -813,6 +905,7 @@ public final class TermsTest {
         Check.same("the first can't be", x.size(7), 1);
         Check.denied(x, "undo", x.undo(), 6);
         Check.same("NOW stays", x.size(7), 1);
+        mixedActs();
         // After some are undone there is room again, and no more is dropped than needed.
         for (int i = 0; i < 16; i++) {
             x.paint(0, 0, 0, 1 + i);
@@ -838,6 +931,30 @@ public final class TermsTest {
         Check.same("acts", x.size(8), 0);
         Check.denied(x, "undo", x.undo(), 6);
         Check.same("NOW stays", x.size(7), 2);
+    }
+
+    /** Twenty acts of all sorts: the latest sixteen are undone one by one. */
+    private static void mixedActs() {
+        FanParts x = fan(LEFT + ";beat 4,0,3,2");
+        String[] states = new String[20];
+        for (int i = 0; i < 20; i++) {
+            states[i] = Edges.state(x);
+            switch (i % 5) {
+                case 0 -> x.paint(i % 2, i % 3, i / 10, 10 + i / 5);
+                case 1 -> x.breaks(i % 3, x.broken(i % 3) == 0);
+                case 2 -> x.open((x.size(7) + 1) % 5);
+                case 3 -> x.paint(1, (i + 1) % 3, 0, 15 + i / 5);
+                default -> x.flutter();
+            }
+            Check.same("act " + i + " is kept", x.size(8), Math.min(16, i + 1));
+        }
+        for (int i = 19; i >= 4; i--) {
+            Check.allowed(x, "undo act " + i, x.undo());
+            // How many could be undone then doesn't count.
+            String counts = "^((\\S+ ){8})\\S+ ";
+            Check.same("as ahead of act " + i, states[i].replaceFirst(counts, "$1").equals(Edges.state(x).replaceFirst(counts, "$1")), true);
+        }
+        Check.denied(x, "undo act 3", x.undo(), 6);
     }
 
     // ---- IV
