@@ -82,12 +82,37 @@ public final class FaceTest {
             Check.same(inside + " has at most twenty fields", fields <= 20, true);
             for (Method method : inside.getDeclaredMethods()) {
                 Check.same(method + " has at most seven parameters", method.getParameterCount() <= 7, true);
+                Check.same(method + " bears no name of the face", isOfFace(method.getName()), false);
             }
         }
     }
 
+    // A method begins with a line that opens it, and ends with a brace as far in.
+    private static void methodsAreShort(List<String> lines) {
+        int methods = 0;
+        for (int i = 0; i < lines.size(); i++) {
+            String line = lines.get(i);
+            if (line.matches("( {4}| {8})[A-Za-z].*\\) (throws \\w+ )?\\{") && !line.matches(" *(if|for|while|switch) .*")) {
+                int end = i;
+                String close = line.replaceAll("\\S.*", "}");
+                while (end < lines.size() && !lines.get(end).equals(close)) {
+                    end++;
+                }
+                methods++;
+                Check.same("at most sixty lines: " + line.strip(), end - i <= 60, true);
+            }
+        }
+        Check.same("methods are found", methods > 100, true);
+    }
+
+    private static boolean isOfFace(String name) {
+        return Arrays.stream(FanParts.class.getMethods())
+            .anyMatch(method -> method.getDeclaringClass() == FanParts.class && method.getName().equals(name));
+    }
+
     private static void source() throws IOException {
         String text = Files.readString(SOURCE);
+        methodsAreShort(Files.readAllLines(SOURCE));
         for (String word : List.of("catch", "finally", "synchronized", "assert", "->", "::", "Exact(", "Object ", "System.out",
                 "getMessage", "hashCode", "static {", "package ", "protected ")) {
             Check.same("the source holds " + word, text.contains(word), false);

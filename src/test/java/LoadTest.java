@@ -6,6 +6,9 @@ public final class LoadTest {
         "wish abababab front 27;wish babababa front 27;wish aaaaaaaa front 27;wish bbbbbbbb front 27",
         "wish abcdefgh front 27;wish hgfedcba front 26;wish aceghbdf front 25;wish hfdbgeca front 24",
         "wish a front 27;wish b front 27;wish c front 27;wish d front 27",
+        "wish ce front 27;wish df front 27;wish dg front 27;wish hd front 27",
+        "wish dcc front 27;wish dce front 26;wish fec front 25;wish cde front 24",
+        "wish a front 27;wish c front 27;wish cc front 27;wish cccc front 27",
         "wish abcdefg front 9;wish gfedcba front 9;wish aaaa front 8;wish b front 0"
     };
 
