@@ -43,9 +43,10 @@ public final class FanParts {
     private static final int MOST_ACTS = 16;
     private static final int MOST_IMAGES = 3;
 
-    private final byte[] tape = new byte[TAPE_ROOM];
+    private final Reader reader = new Reader();
+    // THE TAPE is the reader's, which reads it in place.
+    private final byte[] tape = reader.text;
     private int tapeLength;
-    private final Reader reader = new Reader(tape);
     private Fan told = new Fan();
     private boolean hasFan;
     private final Painting painting = new Painting();
@@ -1063,7 +1064,7 @@ public final class FanParts {
         private static final int COMMA = 4;
         private static final int NO_TOKEN = 5;
 
-        private final byte[] text;
+        final byte[] text = new byte[TAPE_ROOM];
         private int end;
         // A FAN of the reader's own, so that a FAULT leaves the one in use as it was.
         private Fan fan = new Fan();
@@ -1075,10 +1076,6 @@ public final class FanParts {
         private int taken;
         int faultFound;
         int faultPlace = NONE;
-
-        Reader(byte[] tape) {
-            text = tape;
-        }
 
         // The FAN just read, for one that isn't used any more.
         Fan exchange(Fan old) {

@@ -22,6 +22,7 @@ public final class FaceTest {
         methods();
         members();
         nested();
+        constructorsTakeNothing();
         source();
         Check.end();
     }
@@ -108,6 +109,15 @@ public final class FaceTest {
     private static boolean isOfFace(String name) {
         return Arrays.stream(FanParts.class.getMethods())
             .anyMatch(method -> method.getDeclaringClass() == FanParts.class && method.getName().equals(name));
+    }
+
+    // A constructor could hand out nothing of its object, as none takes anything.
+    private static void constructorsTakeNothing() {
+        for (Class<?> inside : FanParts.class.getDeclaredClasses()) {
+            for (Constructor<?> constructor : inside.getDeclaredConstructors()) {
+                Check.same(constructor + " takes nothing", constructor.getParameterCount(), 0);
+            }
+        }
     }
 
     private static void source() throws IOException {
